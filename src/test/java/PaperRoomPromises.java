@@ -10,6 +10,7 @@ public final class PaperRoomPromises {
     private static int wrong = 0;
 
     public static void main(String[] args) {
+        Watch.start();
         promise = 1; newObject();
         promise = 2; type();
         promise = 3; clear();

@@ -15,6 +15,7 @@ public final class PaperRoomWalks {
     private static int wrong = 0;
 
     public static void main(String[] args) {
+        Watch.start();
         int[] refused = new int[5];
         for (int walk = 0; walk < WALKS && wrong < 20; walk++) {
             walk(new Random(walk), walk, refused);
