@@ -400,6 +400,14 @@ public final class PaperRoomBoundsPutIn {
         for (int paper = 0; paper < 3; paper++) {
             int number = paper;
             Bounds.changesNothing(Scenes::fullOfVersions, r -> r.version(number), FULL);
+            // the others have a place yet, which the refused draft must not take
+            Bounds.changesNothing(r -> {
+                Scenes.busy(r);
+                for (int version = r.about(number, 2); version < 4; version++) {
+                    r.revise(number, "v");
+                }
+                r.write("fifth");
+            }, r -> r.version(number), FULL);
         }
         Room room = new Room();
         room.add(0, 0, 0, "x");
