@@ -1,7 +1,9 @@
 import java.lang.reflect.Constructor;
+import java.lang.reflect.Executable;
 import java.lang.reflect.Field;
 import java.lang.reflect.Method;
 import java.lang.reflect.Modifier;
+import java.lang.reflect.Parameter;
 import java.util.ArrayList;
 import java.util.Arrays;
 import java.util.Collections;
@@ -9,17 +11,34 @@ import java.util.HashSet;
 import java.util.List;
 import java.util.Set;
 
-/** The public face is the document's, no more and no less. */
+/** The public face is the document's, line by line, no more and no less. */
 public final class PaperRoomFace {
     private static final String[] FACE = {
+        "constant BAD -1", "constant STATE -2", "constant FULL -3", "constant NO -4", "constant NONE -9",
         "constructor ()",
-        "constant BAD -1", "constant FULL -3", "constant NO -4", "constant NONE -9", "constant STATE -2",
-        "int about(int, int)", "int answer(int, int, boolean)", "int ask(int, int, int)", "int at(int, int)",
-        "int blacken(int, int, int, int)", "int clear()", "int count(int)", "int hear(int, int)",
-        "int log(int, int)", "int may(int, int)", "int named(int, int)", "int paper(int, int, int)",
-        "int question(int, int)", "int read(int, int, int)", "int rights(int, int, int, int)",
-        "int search(int)", "int tick(int)", "int times(int, int, int)", "int type(long, int)",
-        "int version(int)", "int withdraw(int)", "long chain(int)", "long trace()",
+        "int type(long v, int n)",
+        "int clear()",
+        "int paper(int kind, int folder, int tick)",
+        "int version(int paper)",
+        "int blacken(int paper, int version, int from, int to)",
+        "int withdraw(int paper)",
+        "int rights(int group, int folder, int from, int before)",
+        "int tick(int n)",
+        "int about(int paper, int what)",
+        "int may(int bidder, int paper)",
+        "int read(int bidder, int paper, int version)",
+        "int at(int bidder, int i)",
+        "int search(int bidder)",
+        "int named(int paper, int version)",
+        "int log(int i, int what)",
+        "long chain(int i)",
+        "int times(int bidder, int paper, int version)",
+        "int ask(int bidder, int paper, int topic)",
+        "int answer(int question, int v, boolean all)",
+        "int hear(int bidder, int question)",
+        "int question(int question, int what)",
+        "int count(int what)",
+        "long trace()",
     };
 
     private static int wrong = 0;
@@ -36,6 +55,11 @@ public final class PaperRoomFace {
         hold("the face is " + found + ", due is " + want, found.equals(want));
         hold("public and final", Modifier.isPublic(PaperRoom.class.getModifiers())
                 && Modifier.isFinal(PaperRoom.class.getModifiers()));
+        hold("no package", PaperRoom.class.getPackageName().isEmpty());
+        hold("a class that extends and implements nothing", PaperRoom.class.getSuperclass() == Object.class
+                && PaperRoom.class.getInterfaces().length == 0 && PaperRoom.class.getTypeParameters().length == 0);
+        hold("five constants of five values", nameOf(-1).equals("BAD") && nameOf(-2).equals("STATE")
+                && nameOf(-3).equals("FULL") && nameOf(-4).equals("NO") && nameOf(-9).equals("NONE"));
         privateNames(publicNames);
         nested();
         System.out.println(wrong == 0 ? "the face is as due" : wrong + " faults of the face");
@@ -51,11 +75,30 @@ public final class PaperRoomFace {
         }
     }
 
+    /** Only what the compiler knows as a constant can stand behind case. */
+    private static String nameOf(int value) {
+        switch (value) {
+            case PaperRoom.BAD:
+                return "BAD";
+            case PaperRoom.STATE:
+                return "STATE";
+            case PaperRoom.FULL:
+                return "FULL";
+            case PaperRoom.NO:
+                return "NO";
+            case PaperRoom.NONE:
+                return "NONE";
+            default:
+                return "";
+        }
+    }
+
     private static void constructors(List<String> found) {
         for (Constructor<?> made : PaperRoom.class.getDeclaredConstructors()) {
             if (!Modifier.isPrivate(made.getModifiers())) {
-                found.add("constructor (" + names(made.getParameterTypes()) + ")");
-                hold("public constructor", Modifier.isPublic(made.getModifiers()));
+                found.add("constructor (" + parameters(made) + ")");
+                hold("a public constructor that declares no exception",
+                        Modifier.isPublic(made.getModifiers()) && made.getExceptionTypes().length == 0);
             }
         }
     }
@@ -75,10 +118,10 @@ public final class PaperRoomFace {
     private static void methods(List<String> found, Set<String> publicNames) {
         for (Method method : PaperRoom.class.getDeclaredMethods()) {
             if (!Modifier.isPrivate(method.getModifiers())) {
-                hold(method.getName() + " is public", Modifier.isPublic(method.getModifiers()));
+                hold(method.getName() + " is public and nothing else", method.getModifiers() == Modifier.PUBLIC);
+                hold(method.getName() + " declares no exception", method.getExceptionTypes().length == 0);
                 publicNames.add(method.getName());
-                found.add(method.getReturnType() + " " + method.getName()
-                        + "(" + names(method.getParameterTypes()) + ")");
+                found.add(method.getReturnType() + " " + method.getName() + "(" + parameters(method) + ")");
             }
         }
     }
@@ -100,10 +143,11 @@ public final class PaperRoomFace {
         }
     }
 
-    private static String names(Class<?>[] types) {
+    /** The names are known because .ci/run compiles the class with -parameters. */
+    private static String parameters(Executable called) {
         StringBuilder text = new StringBuilder();
-        for (Class<?> type : types) {
-            text.append(text.length() == 0 ? "" : ", ").append(type.getName());
+        for (Parameter one : called.getParameters()) {
+            text.append(text.length() == 0 ? "" : ", ").append(one.getType()).append(' ').append(one.getName());
         }
         return text.toString();
     }

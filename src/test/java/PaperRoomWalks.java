@@ -10,6 +10,10 @@ import java.util.Random;
 public final class PaperRoomWalks {
     private static final int WALKS = 1500;
     private static final int CALLS = 512;
+    private static final int LONG_WALKS = 4;
+    private static final int MANY_CALLS = 20_000;
+    /** So many of the longest steps bring NOW beyond what an int holds. */
+    private static final int STEPS_TO_WRAP = 2_200_000;
     private static final int[] WILD = {Integer.MIN_VALUE, -1000, -9, -1, 1001, 1000001, Integer.MAX_VALUE};
 
     private static int wrong = 0;
@@ -19,6 +23,9 @@ public final class PaperRoomWalks {
         int[] refused = new int[5];
         for (int walk = 0; walk < WALKS && wrong < 20; walk++) {
             walk(new Random(walk), walk, refused);
+        }
+        for (int walk = 0; walk < LONG_WALKS && wrong < 20; walk++) {
+            longWalk(new Random(walk), walk);
         }
         for (int i = 1; i < refused.length; i++) {
             if (refused[i] == 0) {
@@ -58,6 +65,33 @@ public final class PaperRoomWalks {
                         + ", due is " + want + " (or the twin differs)");
                 return;
             }
+        }
+    }
+
+    /**
+     * What calls beyond the 512th answer is free, but LANGUAGE.md lets none of them throw (rule 7):
+     * not in a room that is full of everything, and not where NOW has wrapped.
+     */
+    private static void longWalk(Random random, int walk) {
+        PaperRoom room = new PaperRoom();
+        Call call = null;
+        try {
+            for (int i = 0; i < MANY_CALLS; i++) {
+                call = i < 12 ? Call.grant(i) : Call.any(random);
+                call.on(room);
+                if (i == MANY_CALLS / 2) {
+                    longSteps(room);
+                }
+            }
+        } catch (RuntimeException thrown) {
+            wrong++;
+            System.out.println("long walk " + walk + ": " + call + " threw " + thrown);
+        }
+    }
+
+    private static void longSteps(PaperRoom room) {
+        for (int i = 0; i < STEPS_TO_WRAP; i++) {
+            room.tick(1000);
         }
     }
 
