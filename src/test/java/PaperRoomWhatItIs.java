@@ -21,7 +21,8 @@ public final class PaperRoomWhatItIs {
         Bounds.sentence("a log, each entry chained to the one before", PaperRoomWhatItIs::chained);
         Bounds.sentence("512 calls: the last of them, whichever it is", PaperRoomWhatItIs::lastCall);
         Bounds.sentence("512 calls: the last of them, refused", PaperRoomWhatItIs::lastCallRefused);
-        Bounds.sentence("512 calls of one kind", PaperRoomWhatItIs::callsOfOneKind);
+        Bounds.sentence("512 calls that change something", PaperRoomWhatItIs::callsThatChange);
+        Bounds.sentence("512 calls of one kind with one answer", PaperRoomWhatItIs::callsOfOneAnswer);
         Bounds.sentence("512 calls of an object: others are not touched", PaperRoomWhatItIs::objectsStandAlone);
         Bounds.from("README.md");
         Bounds.sentence("the example", PaperRoomWhatItIs::example);
@@ -260,7 +261,7 @@ public final class PaperRoomWhatItIs {
         atLast(Scenes::fullOfEntries, r -> r.log(200, 0), BAD);
     }
 
-    private static void callsOfOneKind() {
+    private static void callsThatChange() {
         Room ticks = new Room();
         for (int i = 1; i <= Room.MOST_CALLS; i++) {
             Bounds.is(ticks.tick(1000), 1000L * i);
@@ -286,12 +287,42 @@ public final class PaperRoomWhatItIs {
         for (int i = 0; asks.left() > 0; i++) {
             Bounds.is(asks.ask(0, 0, i % 10), i < 2 ? i : STATE);
         }
-        Room names = paperOfKind(2);
-        names.write("a  b");
-        while (names.left() > 1) {
-            Bounds.is(names.named(0, 0), 42);
-            Bounds.is(names.search(1), 0);
+    }
+
+    private static void toTheLast(Consumer<Room> scene, ToLongFunction<Room> call, long want) {
+        Room room = new Room();
+        scene.accept(room);
+        while (room.left() > 0) {
+            Bounds.is(call.applyAsLong(room), want);
         }
+    }
+
+    private static void callsOfOneAnswer() {
+        toTheLast(Scenes::fresh, r -> r.type(31, 1), BAD);
+        toTheLast(Scenes::fresh, Room::clear, 0);
+        toTheLast(Scenes::fresh, r -> r.paper(0, 0, 0), STATE);
+        toTheLast(Scenes::fresh, r -> r.version(0), BAD);
+        toTheLast(Scenes::fresh, r -> r.rights(2, 3, 0, 1000000), 1);
+        toTheLast(Scenes::fresh, r -> r.at(5, 0), Bounds.NONE);
+        toTheLast(Scenes::fresh, r -> r.chain(0), 0);
+        toTheLast(Scenes::fresh, r -> r.count(1), 0);
+        toTheLast(Scenes::fresh, Room::trace, 0);
+        toTheLast(Scenes::busy, r -> r.version(3), STATE);
+        toTheLast(Scenes::busy, r -> r.blacken(0, 0, 3, 6), 4);
+        toTheLast(Scenes::busy, r -> r.withdraw(3), STATE);
+        toTheLast(Scenes::busy, r -> r.about(1, 4), 5);
+        toTheLast(Scenes::busy, r -> r.read(2, 0, 0), NO);
+        toTheLast(Scenes::busy, r -> r.at(1, 7), 'd');
+        toTheLast(Scenes::busy, r -> r.search(0), 0);
+        toTheLast(r -> Scenes.draftOf(r, 1), r -> r.search(0), 1);
+        toTheLast(r -> Scenes.draftOf(r, 1), r -> r.named(2, 0), 63);
+        toTheLast(Scenes::busy, r -> r.log(2, 1), 5);
+        toTheLast(Scenes::busy, r -> r.times(5, 2, 1), 1);
+        toTheLast(Scenes::busy, r -> r.answer(0, 5, true), STATE);
+        toTheLast(Scenes::busy, r -> r.hear(3, 0), 77);
+        toTheLast(Scenes::busy, r -> r.question(0, 2), 9);
+        toTheLast(Scenes::fullOfPapers, r -> r.paper(0, 0, 0), FULL);
+        toTheLast(Scenes::fullOfQuestions, r -> r.ask(0, 3, 0), FULL);
     }
 
     private static Room paperOfKind(int kind) {
